@@ -7,7 +7,7 @@ import java.util.TreeSet;
 
 /** Long runs of calls, in which the class and a second, naive telling of the document must agree. */
 public final class ModelTest {
-    private static final int RUNS = 600;
+    private static final int RUNS = 300;
     private static final int CALLS = 512;
 
     /** The document once more, as slow and as literal as can be. */

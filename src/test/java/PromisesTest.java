@@ -239,6 +239,12 @@ public final class PromisesTest {
             x.join(5, place);
         }
         due("all joined", x.groups(), 1);
+        SignMasons y = new SignMasons();
+        due("join(8, 0)", y.join(8, 0), 8);
+        due("areJoined(0, 8)", y.areJoined(0, 8), true);
+        due("join(7, 8)", y.join(7, 8), 7);
+        due("areJoined(0, 7)", y.areJoined(0, 7), true);
+        due("areJoined(0, 1)", y.areJoined(0, 1), false);
     }
 
     private static void borrow() {
@@ -286,6 +292,13 @@ public final class PromisesTest {
         due("alike by joined places", joined.borrow(0, 0, 1), 2);
         due("thumb 0, as place 4 is not joined", joined.thumbOf(1, 2), 0);
         due("place stays", joined.placeOf(1, 2), 0);
+
+        SignMasons forgotten = withLodges(2);
+        forgotten.addSign(0, 3, 3, 3, 3, 3);
+        forgotten.addSign(1, 3, 3, 3, 3, 4);
+        forgotten.forget(1, 0);
+        forgotten.borrow(0, 0, 1);
+        due("what is forgotten moves no thumb", forgotten.thumbOf(1, 0), 3);
 
         SignMasons full = withLodges(2);
         fill(full, 0);
@@ -358,6 +371,13 @@ public final class PromisesTest {
         due("signFor(1, 29)", x.signFor(1, 29), 1);
         due("signFor(1, 28)", x.signFor(1, 28), -1);
         due("signFor(0, 0)", x.signFor(0, 0), -1);
+        fill(x, 0);
+        due("signFor(0, 15) of a full book", x.signFor(0, 15), 15);
+        due("signFor(0, 16) of a full book", x.signFor(0, 16), -1);
+        for (int i = 0; i < 16; i++) {
+            x.forget(0, 15 - i);
+            due("signFor() of one forgotten", x.signFor(0, 15 - i), -1);
+        }
         for (int out : new int[] {2, -1, Integer.MIN_VALUE, Integer.MAX_VALUE}) {
             wrongInBooks(x, out);
         }
@@ -429,6 +449,29 @@ public final class PromisesTest {
         due("closest(2), two signs", x.closest(2), 11);
         x.addSign(2, 15, 0, 4, 1, 2);
         due("closest(2), three signs", x.closest(2), 3);
+        x.forget(2, 2);
+        due("closest(2), one forgotten", x.closest(2), 11);
+        fullBookDiffers();
+    }
+
+    private static void fullBookDiffers() {
+        SignMasons x = withLodges(1);
+        for (int i = 0; i < 16; i++) {
+            x.addSign(0, 0, i % 4, 0, 0, i);
+        }
+        promise = 19;
+        due("four alike for each thumb", x.alikePairs(0), 24);
+        promise = 20;
+        due("all pairs but those", x.thumbPairs(0), 96);
+        promise = 21;
+        due("closest(0)", x.closest(0), 0);
+        promise = 22;
+        due("all are near to all", x.mostMistaken(0), 0);
+        x.forget(0, 15);
+        promise = 19;
+        due("one with thumb 3 less", x.alikePairs(0), 21);
+        promise = 20;
+        due("one with thumb 3 less", x.thumbPairs(0), 84);
     }
 
     private static void wrongSigns(SignMasons x) {
@@ -460,6 +503,13 @@ public final class PromisesTest {
         due("two that are 3 apart", x.mostMistaken(0), 1);
         x.addSign(0, 1, 2, 0, 3, 3);
         due("the one between, 4 apart is too far", x.mostMistaken(0), 2);
+        SignMasons y = withLodges(1);
+        y.addSign(0, 0, 0, 0, 0, 0);
+        y.addSign(0, 15, 0, 0, 0, 1);
+        y.addSign(0, 3, 0, 0, 0, 2);
+        due("near the first and the second one", y.mostMistaken(0), 2);
+        y.forget(0, 2);
+        due("none is near the other", y.mostMistaken(0), 0);
     }
 
     private static void read() {
@@ -549,8 +599,13 @@ public final class PromisesTest {
         due("alike ones are not understood at home", x.understood(0, 0), 2);
         x.addSign(2, 0, 0, 1, 0, 1);
         x.addSign(2, 15, 1, 1, 1, 2);
-        due("both ways differ", x.understood(0, 2), 1);
-        due("both ways differ", x.understood(2, 0), 1);
+        due("one of three", x.understood(0, 2), 1);
+        due("one of two", x.understood(2, 0), 1);
+        promise = 26;
+        x.addSign(2, 15, 0, 0, 0, 9);
+        x.forget(1, 0);
+        x.addSign(1, 1, 0, 0, 0, 8);
+        due("the first sign too", x.misread(0, 1), 4);
         wrongPairs(x);
     }
 
@@ -573,6 +628,12 @@ public final class PromisesTest {
         due("with an empty one", x.common(0, 2), 0);
         x.addSign(0, 0, 0, 0, 0, 21);
         due("with itself, two alike", x.common(0, 0), 2);
+        SignMasons full = withLodges(2);
+        fill(full, 0);
+        fill(full, 1);
+        due("two full books", full.common(0, 1), 16);
+        full.forget(0, 15);
+        due("one forgotten", full.common(0, 1), 15);
     }
 
     private static void wrongPairs(SignMasons x) {
@@ -610,6 +671,14 @@ public final class PromisesTest {
         due("thumbOf(0, 0) as before", x.thumbOf(0, 0), 2);
         x.addSign(0, 15, 3, 8, 3, 5);
         due("far from all, none else with thumb 3 near", x.bestThumb(0, 5), 0);
+        SignMasons y = withLodges(1);
+        y.addSign(0, 1, 0, 0, 0, 1);
+        y.addSign(0, 0, 3, 0, 0, 2);
+        due("the first one is the nearest", y.bestThumb(0, 1), 1);
+        y.addSign(0, 0, 1, 1, 0, 3);
+        due("the nearest counts, not all together", y.bestThumb(0, 1), 2);
+        y.addSign(0, 15, 2, 8, 0, 4);
+        due("a far one with thumb 2 is no matter", y.bestThumb(0, 1), 2);
         for (int out : new int[] {6, -1, Integer.MIN_VALUE, Integer.MAX_VALUE}) {
             dueThrown(x, "lodge " + out, INDEX, () -> x.bestThumb(out, 0));
             dueThrown(x, "sign " + out, INDEX, () -> x.bestThumb(0, out));
@@ -652,6 +721,22 @@ public final class PromisesTest {
         thumbs.addSign(0, 9, 0, 0, 0, 11);
         due("but another one can", thumbs.bestToBorrow(0, 1), 1);
 
+        SignMasons many = withLodges(2);
+        fill(many, 1);
+        many.forget(1, 15);
+        many.addSign(0, 14, 0, 0, 0, 20);
+        many.addSign(0, 15, 0, 2, 0, 21);
+        due("a reader of many signs", many.bestToBorrow(0, 1), 1);
+
+        // With the first one borrowed, the third one is as near to it as to the reader's own for 5.
+        SignMasons blurred = withLodges(2);
+        fill(blurred, 1);
+        blurred.forget(1, 15);
+        blurred.addSign(0, 5, 2, 0, 0, 20);
+        blurred.addSign(0, 15, 0, 0, 0, 21);
+        blurred.addSign(0, 5, 1, 0, 0, 5);
+        due("what was understood before counts", blurred.bestToBorrow(0, 1), 1);
+
         SignMasons zero = withLodges(2);
         zero.addSign(1, 6, 0, 4, 0, 20);
         zero.addSign(0, 6, 0, 4, 0, 21);
@@ -682,6 +767,13 @@ public final class PromisesTest {
         due("two of a group: those of now", x.alikeIfJoined(0, 8), 1);
         x.join(7, 8);
         due("now all three of lodge 0", x.alikeIfJoined(1, 7), 6);
+        x.addLodge();
+        for (int i = 0; i < 16; i++) {
+            x.addSign(3, 2, 0, 3, 0, i);
+        }
+        due("four lodges, a full book", x.alikeIfJoined(1, 7), 126);
+        x.forget(3, 15);
+        due("one forgotten", x.alikeIfJoined(1, 7), 111);
         for (int out : new int[] {9, -1, Integer.MIN_VALUE, Integer.MAX_VALUE}) {
             dueThrown(x, "one " + out, INDEX, () -> x.alikeIfJoined(out, 0));
             dueThrown(x, "other " + out, INDEX, () -> x.alikeIfJoined(0, out));
