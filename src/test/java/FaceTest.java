@@ -4,12 +4,19 @@ import java.lang.reflect.Method;
 import java.lang.reflect.Modifier;
 import java.nio.file.Files;
 import java.nio.file.Path;
+import java.util.ArrayList;
+import java.util.List;
 import java.util.Set;
 import java.util.TreeSet;
+import java.util.regex.Matcher;
+import java.util.regex.Pattern;
 
-/** The class has just the face that the document writes down, and no static state. */
+/** The class has just the face that the document writes down, in its order, and no static state. */
 public final class FaceTest {
     private static final Path DOCUMENT = Path.of("../shared/DOC.md");
+    private static final Path SOURCE = Path.of("src/main/java/SignMasons.java");
+    private static final Pattern AHEAD = Pattern.compile("Ahead of the calls (.*) the interface says: (----.*)\\.");
+    private static final Pattern PUBLIC_METHOD = Pattern.compile("^    public \\w+ (\\w+)\\(");
 
     private static int wrong = 0;
 
@@ -64,11 +71,42 @@ public final class FaceTest {
         return lines;
     }
 
+    /** The calls in their order, each behind the title under which the document puts it. */
+    private static List<String> callsPromised() throws Exception {
+        List<String> calls = new ArrayList<>();
+        for (String line : Files.readAllLines(DOCUMENT)) {
+            Matcher ahead = AHEAD.matcher(line);
+            if (ahead.matches()) {
+                for (String call : ahead.group(1).split(", ")) {
+                    calls.add(ahead.group(2) + " " + call.replace("`", ""));
+                }
+            }
+        }
+        return calls;
+    }
+
+    private static List<String> callsFound() throws Exception {
+        List<String> calls = new ArrayList<>();
+        String title = "";
+        for (String line : Files.readAllLines(SOURCE)) {
+            Matcher method = PUBLIC_METHOD.matcher(line);
+            if (line.startsWith("    // ----")) {
+                title = line.substring("    // ".length());
+            } else if (method.find()) {
+                calls.add(title + " " + method.group(1));
+            }
+        }
+        return calls;
+    }
+
     public static void main(String[] args) throws Exception {
         Set<String> promised = facePromised();
         Set<String> found = faceFound();
         check(promised.size() == 32, "the document's face has " + promised.size() + " members, not 32");
         check(promised.equals(found), "promised: " + promised + "\nfound: " + found);
+        List<String> order = callsPromised();
+        check(order.size() == 31, "the document puts " + order.size() + " calls under titles, not 31");
+        check(order.equals(callsFound()), "titles and calls promised: " + order + "\nfound: " + callsFound());
         int modifiers = SignMasons.class.getModifiers();
         check(Modifier.isPublic(modifiers) && Modifier.isFinal(modifiers), "the class is not public and final");
         check(SignMasons.class.getPackageName().isEmpty(), "the class is in a package");
